@@ -362,7 +362,7 @@ public final class DemandTerms {
     }
 
     private static boolean hasVersion(long set, int version) {
-        return version >= 0 && version < MAX_VERSIONS && (set >>> version & 1L) != 0;
+        return version >= 0 && version < MAX_VERSIONS && ((set >>> version) & 1L) != 0;
     }
 
     // NEVER is asked first: an EMPTY first TERM counts as never, not as always.
@@ -397,7 +397,7 @@ public final class DemandTerms {
             if (size >= MAX_NAMES || versionCount < 0 || versionCount > MAX_VERSIONS) {
                 return NONE;
             }
-            places[size] = (1L << versionCount) - 1 | NO_VERSION;
+            places[size] = ((1L << versionCount) - 1) | NO_VERSION;
             size++;
             return size - 1;
         }
@@ -562,7 +562,7 @@ public final class DemandTerms {
         }
 
         boolean holds(int k, int name) {
-            return has(k) && name >= 0 && name < MAX_NAMES && (held[k] >>> name & 1) != 0;
+            return has(k) && name >= 0 && name < MAX_NAMES && ((held[k] >>> name) & 1) != 0;
         }
 
         long placesOf(int k, int name) {
@@ -583,7 +583,7 @@ public final class DemandTerms {
         }
 
         int indexOf(int k, int name) {
-            return holds(k, name) ? Integer.bitCount(held[k] & (1 << name) - 1) : NONE;
+            return holds(k, name) ? Integer.bitCount(held[k] & ((1 << name) - 1)) : NONE;
         }
 
         int sourceOf(int k) {

@@ -8,6 +8,7 @@ public final class PromisesTest {
         p01NewObject();
         p02Versions();
         p03Term();
+        p03TermLimit();
         p04Both();
         p05Relate();
         p06About();
@@ -30,6 +31,7 @@ public final class PromisesTest {
         p19Forced();
         p20Spread();
         p20SpreadRounds();
+        p20SpreadManyRounds();
         p20SpreadStops();
         p21Chosen();
         p22ChosenSet();
@@ -102,6 +104,16 @@ public final class PromisesTest {
             due("3: term of name " + name, x.term(name, 1, true), NONE);
         }
         due("3: a refused one takes no number", x.term(0, 0, false), 3);
+    }
+
+    // 600 TERMS take more than the 512 calls that are promised: the limit still has to hold without a throw.
+    private static void p03TermLimit() {
+        DemandTerms x = with(3);
+        for (int term = 0; term < 600; term++) {
+            due("3: term", term % 2 == 0 ? x.term(0, 1, true) : x.both(0, 0, false), term);
+        }
+        due("3: there are 600", x.term(0, 1, true), NONE);
+        due("4: there are 600", x.both(0, 1, true), NONE);
     }
 
     private static void p04Both() {
@@ -638,6 +650,26 @@ public final class PromisesTest {
         due("20: rounds", x.chosenSet(1), 1);
         due("20: rounds", x.chosenSet(2), 1);
         due("20: rounds", x.chosen(2, 1), 1);
+    }
+
+    // a i needs b i, and b i needs a i - 1: without b 0 all fall, but one a round, as the last ones come first.
+    private static void p20SpreadManyRounds() {
+        DemandTerms x = with(48, 48);
+        for (int version = 47; version >= 0; version--) {
+            x.needs(0, version, 1, 1L << version, version % 8);
+            x.derive(0, version);
+            if (version > 0) {
+                x.needs(1, version, 0, 1L << (version - 1), version % 8);
+                x.derive(1, version);
+            }
+        }
+        x.bar(1, 1, false);
+        due("20: many rounds", x.count(), 96);
+        due("20: many rounds", x.spread(), NONE);
+        for (int name = 0; name < 2; name++) {
+            due("20: many rounds", x.chosenSet(name), (1L << 48) - 1);
+            due("20: many rounds", x.chosen(name, 1), 0);
+        }
     }
 
     private static void p20SpreadStops() {
