@@ -49,18 +49,12 @@ public final class PromisesTest {
         CHECK.due(call, got, want);
     }
 
-    /** An object with names of so many versions. */
     private static DemandTerms with(int... versions) {
-        DemandTerms x = new DemandTerms();
-        for (int n : versions) {
-            x.versions(n);
-        }
-        return x;
+        return Check.with(versions);
     }
 
     private static void duePrint(String what, DemandTerms x, int k, String want) {
-        due(what + ": print(" + k + ")", x.print(k), want.length());
-        CHECK.due(what + ": at of print(" + k + ")", Check.printed(x), want);
+        CHECK.duePrint(what, x, k, want);
     }
 
     private static void p01NewObject() {
