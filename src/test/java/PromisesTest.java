@@ -740,28 +740,41 @@ public final class PromisesTest {
         CHECK.due("23: other calls print nothing", Check.printed(x), "a 20; !b 46-47");
     }
 
-    // Sixteen NOT TERMS of 16 runs each, with no version 2: so EITHER of version 2 and NOT the SET is NOT the SET.
+    // Longer than the calls that are promised to one object: each object's part of the text is read from it alone.
     private static void p23PrintLongest() {
-        DemandTerms x = new DemandTerms();
-        long set = 0;
         StringBuilder runs = new StringBuilder();
         for (int version = 0; version < 48; version += 3) {
-            set |= 3L << version;
             runs.append(version == 0 ? "" : ",").append(version).append('-').append(version + 1);
         }
-        x.versions(48);
-        int last = x.bar(0, 4, false);
         StringBuilder want = new StringBuilder();
+        for (int name = 0; name < 16; name++) {
+            want.append(name == 0 ? "!" : "; !").append((char) ('a' + name)).append(' ').append(runs);
+        }
+        for (int from = 0; from < want.length(); from += 400) {
+            DemandTerms x = withLongest();
+            due("23: the longest", x.print(x.count() - 1), want.length());
+            for (int i = from; i < from + 400; i++) {
+                due("23: the longest, at(" + i + ")", x.at(i), i < want.length() ? want.charAt(i) : NONE);
+            }
+        }
+    }
+
+    // Sixteen NOT TERMS of 16 runs each, with no version 2: so EITHER of version 2 and NOT the SET is NOT the SET.
+    private static DemandTerms withLongest() {
+        DemandTerms x = with(48);
+        long set = 0;
+        for (int version = 0; version < 48; version += 3) {
+            set |= 3L << version;
+        }
+        int last = x.bar(0, 4, false);
         for (int name = 1; name < 16; name++) {
             x.versions(48);
             x.needs(name, 2, name - 1, set, 0);
             x.derive(name, 2);
             last = x.learn(last, x.count() - 1, name - 1);
-            want.append('!').append((char) ('a' + name - 1)).append(' ').append(runs).append("; ");
         }
-        duePrint("23: fifteen long TERMS", x, last, want + "p 2");
-        last = x.learn(last, x.bar(15, set, true), 15);
-        duePrint("23: the longest", x, last, want.append("!p ").append(runs).toString());
+        x.learn(last, x.bar(15, set, true), 15);
+        return x;
     }
 
     private static void p24At() {
